@@ -148,6 +148,10 @@ public final class PromisesTest {
         due(3, "behind its end", x.figures(0, 6, 1), 0);
         due(3, "far behind its end", x.figures(0, Integer.MAX_VALUE, 1), 0);
         due(3, "ahead of it", x.figures(0, -1, 1), 0);
+        CutFromOthers exact = new CutFromOthers();
+        tell(exact, 0, 2, TWO, 1, THREE, 2, FOUR, 3);
+        due(3, "the row's last two", exact.figures(0, 0, 3), 3);
+        due(3, "the row ends", exact.figures(0, 2, 10), 2);
         tell(x, 0, 2, ONE, 5, ONE, 1000, ONE, 7);
         due(3, "a worth that is none", x.figures(0, 0, 3), 1);
         tell(x, 0, 2, ONE, -1);
@@ -258,7 +262,8 @@ public final class PromisesTest {
             "5|0", "0|0", "5&4", "5&0", "0&0|1", "1|1&0", "3<5&2", "2&3=3", "!a+1", "-1", "9999+1", "9999*9999*9999*9999",
             "0?5;7", "1?5;7", "0?5", "0?5;0?6;9", "0?5;3?6;9", "-1?8;9", "5;6", "((((((8))))))", "!!!!!!1", "------8",
             "-(-(-(8)))*-1", "!1+!1+!1+!0+!0+!0+!0", "(1<2)<2", "a=4&c=3&n=5&k=1?77;66", "2*3<7", "1|0<0", "7-2+1",
-            "65*65*65*65*65*65-1*0+1", "(0-9999)*9999*9999%1000+2000"
+            "65*65*65*65*65*65-1*0+1", "(0-9999)*9999*9999%1000+2000", "3>3", "3<3", "(0|1)+1", "1?0|1", "1?((((((8))))))",
+            "((((((8))))))?((((((9))))))", "0?8;2?9", "0-1>0", "5-0*9+1", "1?2;0?3", "w-(w-(w-(w-(w-(w-7)))))"
         };
         long[] values = {
             200, 3, 4, 3, 5, 1, 7, 42, 9999, 199, 14, 20, 6, 2, 0, 0,
@@ -266,7 +271,8 @@ public final class PromisesTest {
             1, 0, 1, 0, 1, 1, 1, 1, 1, 0, 9999, wrapped(9999 * 9999 * 9999 * 9999),
             7, 5, 0, 9, 6, 8, 5, 8, 1, 8,
             8, 4, 1, 77, 1, 1, 6,
-            wrapped(65 * 65 * 65 * 65 * 65 * 65 + 1), wrapped(-9999 * 9999 * 9999 % 1000 + 2000)
+            wrapped(65 * 65 * 65 * 65 * 65 * 65 + 1), wrapped(-9999 * 9999 * 9999 % 1000 + 2000), 0, 0, 2, 1, 8,
+            9, 9, 0, 6, 2, 7
         };
         due(8, "as many values as texts", values.length, texts.length);
         for (int i = 0; i < Math.min(values.length, texts.length); i++) {
@@ -380,9 +386,13 @@ public final class PromisesTest {
         due(10, "wide bar", x.size(1, 1), 4);
         due(10, "tall bar", x.size(1, 2), 1);
         due(10, "whole", x.size(2, 0) * 100 + x.size(2, 1) * 10 + x.size(2, 2), 2555);
+        x.figure(1 << 7);
+        due(10, "one", x.size(3, 0) * 100 + x.size(3, 1) * 10 + x.size(3, 2), 111);
+        x.figure(3 << 7 | 3 << 12);
+        due(10, "two by two", x.size(4, 0) * 100 + x.size(4, 1) * 10 + x.size(4, 2), 422);
         due(10, "what 3", x.size(0, 3), BAD);
         due(10, "what -1", x.size(0, -1), BAD);
-        due(10, "no such figure", x.size(3, 0), BAD);
+        due(10, "no such figure", x.size(5, 0), BAD);
         due(10, "no such figure", x.size(-1, 0), BAD);
     }
 
@@ -413,10 +423,17 @@ public final class PromisesTest {
         due(12, "nothing lost", x.ways(2, 2), NOT);
         due(12, "a corner turned", x.ways(11, 0), 1);
         due(12, "by two turns", x.ways(11, 1), 232);
+        x.block(1 << 24);
+        x.block(TWO);
+        due(12, "the last of all places", x.ways(23, 1), 44);
+        due(12, "4 turns", x.ways(23, 0), 4);
+        due(12, "the first of all places", x.ways(33, 1), 0);
+        due(12, "it is counted", x.ways(33, 0), 8);
+        due(12, "a block of a high number", x.ways(32, 1), NOT);
         due(12, "what 3", x.ways(0, 3), BAD);
         due(12, "what -1", x.ways(0, -1), BAD);
         due(12, "no such figure", x.ways(4, 0), BAD);
-        due(12, "no such block", x.ways(20, 0), BAD);
+        due(12, "no such block", x.ways(40, 0), BAD);
         due(12, "below 0", x.ways(-1, 0), BAD);
         due(12, "below 0", x.ways(-10, 0), BAD);
     }
@@ -428,9 +445,16 @@ public final class PromisesTest {
         due(13, "two of a bar turned", x.inside(2), 1);
         due(13, "a bar of a corner", x.inside(21), 0);
         due(13, "like ones have as many cells", x.inside(3), 0);
+        for (int f = 4; f < 9; f++) {
+            x.figure(WHOLE);
+        }
+        x.figure(ONE);
+        due(13, "the last figure", x.inside(98), 1);
+        due(13, "out of the last figure", x.inside(89), 0);
+        due(13, "one and the same", x.inside(0), BAD);
         due(13, "one and the same", x.inside(11), BAD);
-        due(13, "no such", x.inside(4), BAD);
-        due(13, "no such", x.inside(40), BAD);
+        due(13, "no such", with(TWO, CORNER).inside(2), BAD);
+        due(13, "no such", with(TWO, CORNER).inside(20), BAD);
         due(13, "no such", x.inside(110), BAD);
         due(13, "below 0", x.inside(-1), BAD);
     }
@@ -439,6 +463,7 @@ public final class PromisesTest {
         CutFromOthers x = with(TWO, CORNER, THREE, PLUS, ONE);
         due(14, "out of which two", x.around(0, 0), 14);
         due(14, "out of which a corner", x.around(1, 0), 8);
+        due(14, "out of which one", x.around(4, 0), 15);
         due(14, "which out of a plus", x.around(3, 1), 23);
         due(14, "which out of one", x.around(4, 1), 0);
         due(14, "what 2", x.around(0, 2), BAD);
@@ -450,6 +475,8 @@ public final class PromisesTest {
     private static void common() {
         CutFromOthers x = with(TWO, CORNER, THREE, PLUS, ONE);
         due(15, "of none: all", x.common(0), 31);
+        due(15, "of the first", x.common(1), 16);
+        due(15, "of first and third", x.common(5), 16);
         due(15, "of corner and bar", x.common(6), 17);
         due(15, "of a plus", x.common(8), 23);
         due(15, "of all", x.common(31), 0);
@@ -506,6 +533,25 @@ public final class PromisesTest {
         law(x, "n=0?1;n=1&k=1?50;n=2?10;0");
         due(17, "by the place in the row", x.richest(0, 0, -1), 61);
         due(17, "which begins", x.richest(0, 0, 0), 2);
+        CutFromOthers like = with(CORNER, 34, THREE);
+        like.block(PLUS);
+        like.mend(0, 0, 50);
+        like.mend(1, 0, 50);
+        due(17, "50 and 50, or 100", like.richest(0, 0, -1), 100);
+        due(17, "the shorter one", like.richest(0, 0, 0), 2);
+        due(17, "is no longer", like.richest(0, 0, 1), NOT);
+        like.mend(2, 0, 99);
+        due(17, "now the longer one", like.richest(0, 0, 0), 0);
+        due(17, "now the longer one", like.richest(0, 0, 1), 1);
+        CutFromOthers ten = with(31, 15, 7, 3, 1, 1023, 32767, 1048575, WHOLE - 1, WHOLE ^ 1 << 4 ^ 1);
+        ten.block(WHOLE);
+        law(ten, "n*n");
+        due(17, "ten years", ten.richest(0, 99, -1), 285);
+        due(17, "the tenth", ten.richest(0, 99, 9), 4);
+        due(17, "no eleventh", ten.richest(0, 99, 10), NOT);
+        law(ten, "n=9");
+        due(17, "but one of ten brings", ten.richest(0, 0, -1), 1);
+        due(17, "all ten", ten.richest(0, 0, 0), 8);
         law(x, "0");
         due(17, "nothing is brought", x.richest(0, 0, -1), 0);
         due(17, "the shortest is none", x.richest(0, 0, 0), NOT);
@@ -527,6 +573,11 @@ public final class PromisesTest {
         due(18, "two like ones", x.with(0, 5), NOT);
         due(18, "one and two of a corner", x.with(1, 1), 2);
         due(18, "as many cells as the block", x.with(1, 20), NOT);
+        CutFromOthers bars = with(ONE, TWO, THREE, FOUR, 31, 34);
+        bars.block(WHOLE);
+        due(18, "no bar is with a slant", bars.with(0, 50), 2);
+        due(18, "bars", bars.with(0, 42), 5);
+        due(18, "a slant out of no bar", bars.with(0, 52), NOT);
         due(18, "one and the same", x.with(0, 11), BAD);
         due(18, "no such", x.with(0, 60), BAD);
         due(18, "no such", x.with(0, 6), BAD);
@@ -546,6 +597,13 @@ public final class PromisesTest {
         x.figure(ONE);
         due(19, "two, not corner or bar", x.spare(0, 0), 2);
         due(19, "how long then", x.spare(0, 1), 2);
+        CutFromOthers first = with(ONE, THREE, CORNER, FOUR);
+        first.block(WHOLE);
+        due(19, "one", first.spare(0, 0), 0);
+        due(19, "a bar out of a bar", first.spare(0, 1), 2);
+        CutFromOthers second = with(THREE, ONE, CORNER);
+        second.block(WHOLE);
+        due(19, "the second", second.spare(0, 0), 1);
         x.figure(16777216);
         x.figure(33);
         due(19, "none is missed: the least", x.spare(0, 0), 0);
@@ -588,6 +646,13 @@ public final class PromisesTest {
         due(21, "like ones lie on each other", x.smallest(34, 1), 31);
         due(21, "a long bar and a plus", x.smallest(35, 0), 7);
         due(21, "that", x.smallest(35, 1), 2 | 31 << 5 | 2 << 10);
+        CutFromOthers turns = with(66 | 1 << 12, 34, 2 | 3 << 5 | 1 << 10, WHOLE, 1057, CORNER);
+        due(21, "a zigzag, and what turns the other way", turns.smallest(20, 0), 5);
+        due(21, "a zigzag has a slant", turns.smallest(21, 0), 4);
+        due(21, "lying it is less than upright", turns.smallest(21, 1), 3 | 6 << 5);
+        due(21, "the whole square", turns.smallest(31, 0), 25);
+        due(21, "that", turns.smallest(13, 1), WHOLE);
+        due(21, "an upright bar and a corner", turns.smallest(45, 1), 39);
         due(21, "what 2", x.smallest(1, 2), BAD);
         due(21, "what -1", x.smallest(1, -1), BAD);
         due(21, "one and the same", x.smallest(11, 0), BAD);
@@ -608,6 +673,10 @@ public final class PromisesTest {
         x.figure(PLUS);
         due(22, "most behind a plus", x.leave(1, 0), 6);
         due(22, "each once", x.leave(1, 1), 5);
+        CutFromOthers zero = with(THREE, ONE);
+        zero.block(WHOLE);
+        due(22, "the first figure", zero.leave(0, 0), 0);
+        due(22, "one behind it", zero.leave(0, 1), 1);
         due(22, "what 2", x.leave(1, 2), BAD);
         due(22, "what -1", x.leave(1, -1), BAD);
         due(22, "no such block", x.leave(2, 0), BAD);
@@ -625,6 +694,13 @@ public final class PromisesTest {
         due(23, "the first by which it does", x.byTurns(1, 1), 2);
         due(23, "at once", x.byTurns(1, 2), 1);
         due(23, "of a corner", x.byTurns(2, 1), 2);
+        x.figure(ONE);
+        due(23, "a smaller one came", x.byTurns(1, 1), 5);
+        due(23, "out of two, too", x.byTurns(0, 0), 1);
+        CutFromOthers zero = with(ONE, TWO);
+        zero.block(THREE);
+        due(23, "the first figure", zero.byTurns(0, 1), 0);
+        due(23, "at once", zero.byTurns(0, 2), 1);
         due(23, "what 3", x.byTurns(1, 3), BAD);
         due(23, "what -1", x.byTurns(1, -1), BAD);
         due(23, "no such block", x.byTurns(3, 0), BAD);
@@ -639,6 +715,8 @@ public final class PromisesTest {
         due(24, "still in all", x.egg(WHOLE, 0), 31);
         due(24, "all is no part", x.egg(WHOLE, 1), 0);
         due(24, "all", x.egg(WHOLE, 2), 25);
+        due(24, "one cell is a part of all", x.egg(1 << 13, 1), 31);
+        due(24, "nothing is in it", x.egg(1 << 13, 0), 0);
         due(24, "empty", x.egg(0, 0), BAD);
         due(24, "beyond", x.egg(WHOLE + 1, 2), BAD);
         due(24, "below 0", x.egg(-1, 2), BAD);
@@ -820,6 +898,19 @@ public final class PromisesTest {
         CutFromOthers turned = with(CORNER);
         turned.block(1 << 18 | 3 << 22 | 1 << 4);
         turned.cut(0);
+        CutFromOthers first = with(ONE);
+        first.block(PLUS);
+        first.cut(0);
+        due(29, "by the first way", first.of(0, 4), 2);
+        first.block(CORNER << 12);
+        first.cut(10);
+        due(29, "by the first way", first.of(1, 4), 1 << 12);
+        first.block(1 << 24 | 1 << 20);
+        first.cut(20);
+        due(29, "by the first way", first.of(2, 4), 1 << 20);
+        first.block(3);
+        first.cut(30);
+        due(29, "at the first place", first.of(3, 4), 1);
         due(29, "turned twice, at its place", turned.of(0, 4), 1 << 18 | 3 << 22);
     }
 
@@ -932,6 +1023,30 @@ public final class PromisesTest {
         }
         due(35, "the latest", x.of(1, 0), 244);
         due(35, "no more", x.redo(), STATE);
+        CutFromOthers mixed = with(ONE, TWO, THREE);
+        for (int i = 0; i < 44; i++) {
+            mixed.mend(i % 3, i % 2, i % 9 + 1);
+        }
+        int undone = 0;
+        while (mixed.undo() > 0) {
+            undone++;
+        }
+        due(34, "40 of 44", undone, 39);
+        int[] was = {1, 2, 3, 4};
+        due(34, "of 0, worth", mixed.of(0, 0), was[0]);
+        due(34, "of 1, fades", mixed.of(1, 1), was[1]);
+        due(34, "of 2, worth", mixed.of(2, 0), was[2]);
+        due(34, "of 0, fades", mixed.of(0, 1), was[3]);
+        due(34, "of 1, worth", mixed.of(1, 0), 100);
+        due(34, "of 2, fades", mixed.of(2, 1), 0);
+        while (mixed.redo() > 0) {
+            undone--;
+        }
+        due(35, "all 40", undone, 0);
+        due(35, "of 1, fades, the last", mixed.of(1, 1), 8);
+        due(35, "of 0, worth, the last but one", mixed.of(0, 0), 7);
+        due(35, "of 2, fades, ahead of it", mixed.of(2, 1), 6);
+        due(35, "of 1, worth, ahead of it", mixed.of(1, 0), 5);
     }
 
     private static void body() {
@@ -978,6 +1093,23 @@ public final class PromisesTest {
         acts(x, 7, 1, 7, 34 + 5 - 12, 80, 10, 20, 1, 50, 11, 20, 1);
         acts(x, 7, 3, 7, 27 - (6 - 12) - 1, 81, 2, 80, 10, 20, 1, 50, 11, 20, 1, 50, 11, 20, 1);
         acts(x, 6, 0, Integer.MAX_VALUE, 10, 70, 1);
+        acts(x, 6, 2, 7, 1, 11);
+        acts(x, 6, 3, 7, 52 - 7, 2, 10, 70, 1, 11);
+        acts(x, 1, 2, 7, 6, 11);
+        acts(x, 1, 3, 7, 22, 2, 10, 20, 1, 11);
+        acts(x, 2, 0, 7, 9, 1);
+        acts(x, 2, 2, 7, 5, 11);
+        acts(x, 2, 3, 7, -21, 2, 30, 10, 1, 11);
+        acts(x, 3, 0, 7, 10, 1);
+        acts(x, 3, 3, 7, -22 - 6, 2, 41, 30, 10, 1, 40, 11);
+        acts(x, 4, 0, 7, 14, 20, 1);
+        acts(x, 4, 1, 7, 28, 10, 20, 1);
+        acts(x, 4, 3, 7, 28 - (5 - 9), 2, 10, 20, 1, 50, 11, 20, 1);
+        acts(x, 5, 0, 7, 12, 1);
+        acts(x, 5, 1, 7, -26, 41, 30, 10, 1);
+        acts(x, 5, 2, 7, 6, 40, 11);
+        acts(x, 7, 0, 7, 17, 20, 1);
+        acts(x, 7, 2, 7, -12, 50, 11, 20, 1);
         due(38, "-1", x.trace(-1), BAD);
         due(37, "no such stone", x.act(8, 0, 1), 0);
         due(38, "no trace then", x.trace(0), BAD);

@@ -4,7 +4,9 @@ import java.util.Random;
 
 /** Long runs of drawn calls, each answer held against Naive's. The seeds are fixed, so every run is the same. */
 public final class OracleTest {
-    private static final int CALLS = 500;
+    // an object may be asked 512 calls; one step asks at most 61 of them
+    private static final int CALLS = 512;
+    private static final int MOST_OF_A_STEP = 61;
     private static final int[] SHAPES = {
         1, 3, 7, 15, 31, 33, 35, 65, 99, 103, 229, 231, 263, 1057, 2115, 2274, 3105, 7399, 15855, 201135, 507375,
         16777216, 1082401, 17043521, 33554430, 33554431
@@ -26,7 +28,7 @@ public final class OracleTest {
     }
 
     public static void main(String[] args) {
-        int runs = args.length > 0 ? Integer.parseInt(args[0]) : 60;
+        int runs = args.length > 0 ? Integer.parseInt(args[0]) : 80;
         int first = args.length > 1 ? Integer.parseInt(args[1]) : 1;
         int wrong = 0;
         for (int seed = first; seed < first + runs && wrong == 0; seed++) {
@@ -39,7 +41,7 @@ public final class OracleTest {
     }
 
     private int run(int seed) {
-        for (int i = 0; i < CALLS && wrong == 0; i++) {
+        for (int i = 0; calls.size() + MOST_OF_A_STEP <= CALLS && wrong == 0; i++) {
             call(i);
         }
         if (wrong != 0) {
@@ -94,11 +96,11 @@ public final class OracleTest {
     }
 
     private int figure() {
-        return from(0, Math.max(0, is.count(0) - 1));
+        return from(0, Math.max(0, due.count(0) - 1));
     }
 
     private int block() {
-        return from(0, Math.max(0, is.count(1) - 1));
+        return from(0, Math.max(0, due.count(1) - 1));
     }
 
     private int two(int first, int second) {
@@ -131,7 +133,7 @@ public final class OracleTest {
             case 3: {
                 int what = from(0, 2);
                 int v = from(0, what == 0 ? 999 : what == 1 ? 9 : 99);
-                v = draw.nextInt(5) == 0 ? is.of(a, what) : v;
+                v = draw.nextInt(5) == 0 ? due.of(a, what) : v;
                 same("mend(" + a + ", " + what + ", " + v + ")", is.mend(a, what, v), due.mend(a, what, v));
                 break;
             }
@@ -215,7 +217,7 @@ public final class OracleTest {
             case 12: same("inside(" + ab + ")", is.inside(ab), due.inside(ab)); break;
             case 13: same("around(" + a + ", " + one + ")", is.around(a, one), due.around(a, one)); break;
             case 14: {
-                int set = from(0, (1 << is.count(0)) - 1) & (draw.nextBoolean() ? -1 : 1 << draw.nextInt(10));
+                int set = from(0, (1 << due.count(0)) - 1) & (draw.nextBoolean() ? -1 : 1 << draw.nextInt(10));
                 same("common(" + set + ")", is.common(set), due.common(set));
                 break;
             }
@@ -282,11 +284,11 @@ public final class OracleTest {
 
     /** A row of bytes that is one of the longest row's beginnings, with some unknown, or one by chance. */
     private void tellRow(int shelf, int block, boolean byChance) {
-        int longest = Math.max(0, is.longest(block, -1));
+        int longest = Math.max(0, due.longest(block, -1));
         int n = byChance ? draw.nextInt(5) : draw.nextInt(longest + 1);
         same("row(" + shelf + ", 0, " + n + ")", is.row(shelf, 0, n), due.row(shelf, 0, n));
         for (int i = 0; i < n; i++) {
-            int v = byChance ? from(-1, 9) : is.longest(block, i);
+            int v = byChance ? from(-1, 9) : due.longest(block, i);
             v = draw.nextInt(3) == 0 ? -1 : v;
             same("put(" + shelf + ", " + i + ", " + v + ")", is.put(shelf, i, v), due.put(shelf, i, v));
         }
@@ -302,7 +304,7 @@ public final class OracleTest {
                 break;
             }
             case 36: {
-                int body = from(0, Math.max(0, is.count(4) - 1));
+                int body = from(0, Math.max(0, due.count(4) - 1));
                 int act = from(0, 3);
                 int x = draw.nextBoolean() ? draw.nextInt() : draw.nextInt(10);
                 same("act(" + body + ", " + act + ", " + x + ")", is.act(body, act, x), due.act(body, act, x));
@@ -313,7 +315,7 @@ public final class OracleTest {
                 break;
             }
             case 37: {
-                int body = from(-1, is.count(4) - 1);
+                int body = from(-1, due.count(4) - 1);
                 same("keep(" + shelf + ", " + body + ")", is.keep(shelf, body), due.keep(shelf, body));
                 break;
             }

@@ -2,27 +2,52 @@ import java.lang.management.ManagementFactory;
 
 /** All calls of a run live in one room: what an object needs is made with it, and calls make nothing. */
 public final class RoomTest {
-    private static final int ROUNDS = 200;
+    private static final int OBJECTS = 60;
+    // with the calls that fill it, an object is asked fewer than 512
+    private static final int ROUNDS = 3;
     // room for what the machine itself makes now and then; a single int in each call would be far more
     private static final long SPARE_BYTES = 20000;
+    // an object's own rows, some 4000 elements
+    private static final long BYTES_OF_OBJECT = 32000;
+
+    private static final com.sun.management.ThreadMXBean THREADS =
+        (com.sun.management.ThreadMXBean) ManagementFactory.getThreadMXBean();
 
     public static void main(String[] args) {
-        com.sun.management.ThreadMXBean threads = (com.sun.management.ThreadMXBean) ManagementFactory.getThreadMXBean();
-        CutFromOthers x = new CutFromOthers();
-        fill(x);
-        useAll(x, 0);
-        long self = Thread.currentThread().getId();
-        long before = threads.getThreadAllocatedBytes(self);
-        long sum = 0;
-        for (int round = 0; round < ROUNDS; round++) {
-            sum += useAll(x, round);
+        CutFromOthers[] made = new CutFromOthers[OBJECTS];
+        useAll(filled(), 0);
+        long start = bytes();
+        for (int i = 0; i < OBJECTS; i++) {
+            made[i] = new CutFromOthers();
         }
-        long made = threads.getThreadAllocatedBytes(self) - before;
-        boolean good = made <= SPARE_BYTES;
-        System.out.println(good ? "calls make no objects (" + sum + ")" : ROUNDS + " rounds of calls made " + made + " bytes");
+        long each = (bytes() - start) / OBJECTS;
+        for (CutFromOthers x : made) {
+            fill(x);
+        }
+        long before = bytes();
+        long sum = 0;
+        for (CutFromOthers x : made) {
+            for (int round = 0; round < ROUNDS; round++) {
+                sum += useAll(x, round);
+            }
+        }
+        long spent = bytes() - before;
+        boolean good = spent <= SPARE_BYTES && each <= BYTES_OF_OBJECT;
+        System.out.println(good ? "calls make no objects (" + sum + ")" : "calls made " + spent + " bytes");
+        System.out.println("an object has " + each + " bytes");
         if (!good) {
             System.exit(1);
         }
+    }
+
+    private static long bytes() {
+        return THREADS.getThreadAllocatedBytes(Thread.currentThread().getId());
+    }
+
+    private static CutFromOthers filled() {
+        CutFromOthers x = new CutFromOthers();
+        fill(x);
+        return x;
     }
 
     private static void fill(CutFromOthers x) {

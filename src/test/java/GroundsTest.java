@@ -14,6 +14,7 @@ public final class GroundsTest extends Sentences {
         whenCutFirst();
         richestFromItsYear();
         bringsInItsYear();
+        heldByItself();
         broughtStays();
         onlyWhatIsLeft();
         leftHoweverItLies();
@@ -69,6 +70,30 @@ public final class GroundsTest extends Sentences {
         due("year 3, five ahead", x.brings(1, 3, 5), 305);
         due("year 99, 99 ahead", x.brings(1, 99, 99), 9999);
         due("year 98, 99 ahead", x.brings(1, 98, 99), 9899);
+    }
+
+    private static void heldByItself() {
+        sentence("Terms 1: what a FIGURE brings in a year (held within 0 .. 9999): each by itself, ahead of any sum or choice");
+        CutFromOthers x = cutting(SQUARE, FOUR, THREE, TWO);
+        law(x, "n*100-50");
+        due("0, 50 and 150", x.richest(0, 0, -1), 200);
+        due("the first, which brings none", x.richest(0, 0, 0), 0);
+        due("the last", x.richest(0, 0, 2), 2);
+        due("the first in deed", x.cut(0), 0);
+        due("the second in deed", x.cut(1), 50);
+        due("together", x.led(2), 50);
+        law(x, "9000+n*999");
+        due("9000 out of what is left", x.richest(0, 0, -1), 9000);
+        x.block(WHOLE);
+        due("9000, 9999 and 9999", x.richest(1, 0, -1), 28998);
+        law(x, "a-200");
+        due("none in any year", x.when(0, 1), 0);
+        due("the first of like years", x.when(0, 0), 0);
+        due("no row brings any", x.richest(1, 0, -1), 0);
+        due("so the shortest", x.richest(1, 0, 0), NOT);
+        law(x, "9990+a");
+        due("the most in a year", x.when(0, 1), 9999);
+        due("the first of like years", x.when(0, 0), 9);
     }
 
     private static void broughtStays() {

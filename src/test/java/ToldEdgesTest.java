@@ -276,7 +276,7 @@ public final class ToldEdgesTest extends Sentences {
         for (int i = 0; i < n; i++) {
             int end = -1;
             int can = x.egg(x.of(block, 4), 0);
-            while (can != 0) {
+            for (int cut = 0; cut < 10 && can != 0; cut++) {
                 z = z * 1103515245 + 12345;
                 int ahead = (z >>> 8) % Integer.bitCount(can);
                 for (end = 0; ahead > 0 || (can >> end & 1) == 0; end++) {
